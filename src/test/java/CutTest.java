@@ -22,7 +22,8 @@ public final class CutTest {
         Due.dueCut("outside of the window", x, 0, 7, 10, 1, 1, 0);
         Due.dueCut("of two the smaller one", Due.of("9009[f0:90099]00"), 0, 2, 10, 4, 0, 0);
         Due.dueCut("the nearer one inside", Due.of("90099[f0:90099]00"), 0, 7, 11, 2, 0, 0);
-        Due.dueCut("not at the mark's end", Due.of("99[f0:999]00"), 0, 2, 6, 2, 1, 0);
+        Due.dueCut("no quiet seam", Due.of("99[f0:999]00"), 0, 2, 6, 2, 1, 0);
+        Due.dueCut("not at the mark's end", Due.of("99[f0:990]00"), 0, 2, 5, 1, 1, 0);
         Due.dueCut("one frame before the mark's end", Due.of("99[f0:9900]00"), 0, 5, 6, 0, 0, 0);
         Due.dueCut("levels before the recording are 0", Due.of("[f0:0]99"), 0, 0, 1, 0, 1, 0);
         x = Due.of("992[f0:2]299");
@@ -84,6 +85,7 @@ public final class CutTest {
     private static void breaths() {
         SpeechCleaner x = Due.of("99[b:55555]99");
         Due.due("neither short nor long", x.cuts(), 0);
+        Due.due("as long as the shortest", Due.of("99[b:55]99").cuts(), 0);
         x.set(5, 5);
         Due.due("as long as the longest", x.cuts(), 0);
         x.set(5, 4);
@@ -152,6 +154,12 @@ public final class CutTest {
         x.mark(0, 21, 25, 0);
         Due.due("window 20 reaches both", x.bestWindow(), 20);
         Due.due("it is no act", x.undo(), 3);
+        x = Due.of("009[f0:9]900" + "9".repeat(40));
+        for (int i = 0; i < 19; i++) {
+            x.mark(0, 8 + 2 * i, 9 + 2 * i, 0);
+        }
+        Due.due("20 cuts", x.cuts(), 20);
+        Due.due("19 of 20 are rough", x.bestWindow(), 2);
     }
 
     private static void greatestDoubts() {
