@@ -1,22 +1,31 @@
 /** What the tests share: answers that are due, and texts typed as a whole. */
 final class Due {
     private static int wrong = 0;
+    private static String sentence = "";
 
     private Due() {
     }
 
+    /** The words of the document that the next answers are due to. */
+    static void says(String words) {
+        sentence = words;
+    }
+
     static void due(String call, long got, long want) {
         if (got != want) {
-            wrong++;
-            System.out.println(call + " answered " + got + ", due is " + want);
+            tell(call + " answered " + got + ", due is " + want);
         }
     }
 
     static void dueFloat(String call, float got, float want) {
         if (Float.compare(got, want) != 0) {
-            wrong++;
-            System.out.println(call + " answered " + got + ", due is " + want);
+            tell(call + " answered " + got + ", due is " + want);
         }
+    }
+
+    private static void tell(String fault) {
+        wrong++;
+        System.out.println(fault + (sentence.isEmpty() ? "" : " [" + sentence + "]"));
     }
 
     static void type(SpeechCleaner x, String text) {
@@ -25,13 +34,16 @@ final class Due {
         }
     }
 
-    /** A new object that has read a text. */
-    static SpeechCleaner of(String text) {
+    /** A new object that has read a text, and then has settings: number, value, number, value, .. */
+    static SpeechCleaner of(String text, int... settings) {
         SpeechCleaner x = new SpeechCleaner();
         type(x, text);
         int frames = x.read();
         if (frames < 0) {
             due("read() of " + text, frames, 0);
+        }
+        for (int i = 0; i + 1 < settings.length; i += 2) {
+            x.set(settings[i], settings[i + 1]);
         }
         return x;
     }
@@ -55,8 +67,7 @@ final class Due {
 
     static void dueText(String what, String got, String want) {
         if (!got.equals(want)) {
-            wrong++;
-            System.out.println(what + " is " + got + ", due is " + want);
+            tell(what + " is " + got + ", due is " + want);
         }
     }
 
