@@ -39,6 +39,7 @@ public final class CutEdgesTest {
         roughAtBothEnds();
         doubts();
         doubtsOfBreaths();
+        searchesInTwentyMarks();
         Due.end("CutEdgesTest");
     }
 
@@ -480,6 +481,25 @@ public final class CutEdgesTest {
         x.mark(0, 0, 200, 50);
         Due.due("greatestDoubt(199)", x.greatestDoubt(199), 49);
         Due.due("greatestDoubt(200)", x.greatestDoubt(200), 100);
+    }
+
+    private static void searchesInTwentyMarks() {
+        Due.says("There are at most 20 marks (the searches look at all of them)");
+        SpeechCleaner x = Due.of("009[f0:9]900" + "9".repeat(40));
+        for (int i = 0; i < 19; i++) {
+            x.mark(0, 8 + 2 * i, 9 + 2 * i, i + 1);
+        }
+        Due.due("cuts()", x.cuts(), 20);
+        Due.due("19 of 20 are rough with any window", x.bestWindow(), 2);
+        x.set(WINDOW, 0);
+        for (int frames = 1; frames <= 19; frames++) {
+            Due.due("greatestDoubt(" + frames + ")", x.greatestDoubt(frames), frames - 1);
+        }
+        Due.due("greatestDoubt(0)", x.greatestDoubt(0), NONE);
+        Due.due("greatestDoubt(20)", x.greatestDoubt(20), 100);
+        x.hold(0, true);
+        x.set(WINDOW, 20);
+        Due.due("all of 19 are rough with any window", x.bestWindow(), 0);
     }
 
     private static void doubtsOfBreaths() {
